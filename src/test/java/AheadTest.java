@@ -12,6 +12,7 @@ public final class AheadTest {
         odds();
         oddsOfMany();
         nothingChanges();
+        fullHouse();
         due.end();
     }
 
@@ -42,6 +43,15 @@ public final class AheadTest {
         for (int[] w : new int[][] {{-1, 0, 0}, {601, 0, 0}, {0, -1, 0}, {0, 1, 0}, {0, 0, -1}, {0, 0, 8}}) {
             due.is("then(" + w[0] + ", " + w[1] + ", " + w[2] + ")", x.then(w[0], w[1], w[2]), Due.BEYOND);
         }
+        // by HARD: 60/10+2, 61/10+2 of the second STEP's 20 tenths
+        TakenUp h = new TakenUp();
+        h.worker(0);
+        h.step(0, 1, 1);
+        h.step(0, 2, 9);
+        h.setWorker(0, 0, 59);
+        due.is("the first", h.then(1, 0, 2), 1);
+        due.is("the second", h.then(2, 0, 3), 8);
+        due.is("the second", h.then(3, 0, 3), 16);
         // beyond 9999
         TakenUp y = new TakenUp();
         for (int i = 0; i < 16; i++) {
@@ -86,6 +96,22 @@ public final class AheadTest {
         due.is("BEYOND ahead of STATE", x.cost(0, 601), Due.BEYOND);
         x.minutes(60);
         due.is("all is done", x.cost(1, 0), 0);
+        // END in MINUTE 0 is an END
+        TakenUp first = new TakenUp();
+        first.worker(0);
+        first.step(0, 1, 0);
+        first.setWorker(0, 0, 50);
+        first.rest(0, 0, 0, 5);
+        first.rest(0, 0, 3, 5);
+        due.is("with it 10, without it 0", first.cost(0, 600), 10);
+        first.setRest(0, 3, 2);
+        due.is("0 with and without it", first.cost(1, 600), 0);
+        due.is("0 without it", first.refuse(0, 1), 0);
+        odds(first, 0, 600, 0, 1, 1);
+        first.minutes(1);
+        due.is("refuse by 0, all is done", first.refuse(0, 0), 0);
+        due.is("cost by 0, all is done", first.cost(1, 0), 0);
+        due.is("best, all is done", first.best(1, 9), 1);
         // without it END is sooner than with it only if DEPTH helps: here it hurts
         TakenUp y = new TakenUp();
         y.worker(0);
@@ -131,6 +157,18 @@ public final class AheadTest {
         y.minutes(1);
         due.is("all have come", y.refuse(0, 600), Due.NONE);
         due.is("one hasn't", y.refuse(1, 600), 5);
+        // only those of this WORKER, be there others of lower numbers that change as little
+        TakenUp u = new TakenUp();
+        for (int i = 0; i < 3; i++) {
+            u.worker(0);
+            u.step(i, 1, 0);
+        }
+        for (int i = 2; i >= 0; i--) {
+            u.rest(0, i, 900, 3);
+        }
+        for (int i = 0; i < 3; i++) {
+            due.is("its own", u.refuse(i, 600), 2 - i);
+        }
         // without STEPS there is no END
         TakenUp z = new TakenUp();
         z.worker(0);
@@ -310,6 +348,51 @@ public final class AheadTest {
         odds(x, 0, 600, 9, 1, 1);
         odds(x, 0, 600, 8, 0, 1);
         due.is("told(3)", x.told(3), 2);
+    }
+
+    /** As many WORKERS, STEPS, BREAKS and numbers as there may be. */
+    private static void fullHouse() {
+        TakenUp x = new TakenUp();
+        for (int i = 0; i < 4; i++) {
+            x.worker(0);
+            for (int j = 0; j < 8; j++) {
+                x.step(i, 1, 0);
+            }
+        }
+        Due.text(x, 1, "10");
+        for (int i = 0; i < 8; i++) {
+            x.rest(10, i / 2, i, 4);
+        }
+        // a STEP a MINUTE: ENDS 7, and 8 more by two BREAKS; those of 3 come in 6 and 7
+        int[] ends = {15, 15, 15, 15};
+        for (int i = 0; i < 4; i++) {
+            due.is("then(600, " + i + ", 7)", x.then(600, i, 7), ends[i]);
+            due.is("refuse(" + i + ", 600)", x.refuse(i, 600), 2 * i);
+            x.tell(15);
+        }
+        for (int i = 0; i < 8; i++) {
+            due.is("cost(" + i + ", 600)", x.cost(i, 600), 4);
+        }
+        due.is("best(7, 9)", x.best(7, 9), 0);
+        due.is("best(7, 13)", x.best(7, 13), 12);
+        due.is("waits(600)", x.waits(600), 0);
+        due.is("heap(7)", x.heap(7), 7 + 6 + 5 + 4 + 3 + 2 + 1);
+        due.is("odds(3, 600, 15, 0)", x.odds(3, 600, 15, 0), Due.STATE);
+        due.is("check()", x.check(), 0);
+        for (int i = 0; i < 24; i++) {
+            x.tell(i < 4 ? 15 : 0);
+        }
+        due.is("check() of 24", x.check(), 5);
+        x.image();
+        x.minutes(10);
+        x.loose(10);
+        for (int i = 0; i < 4; i++) {
+            due.is("ENDS", x.workerIs(i, 7), 15);
+        }
+        due.is("draws till the last STEP", x.count(10) == 1 ? 0 : 1, 1);
+        due.is("restore()", x.restore(), 0);
+        due.is("no draw yet", x.count(10), 1);
+        due.is("none has come", x.count(2), 8);
     }
 
     private static void nothingChanges() {

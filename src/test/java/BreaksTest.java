@@ -7,6 +7,7 @@ public final class BreaksTest {
         rest();
         restIs();
         keeps();
+        keepsByDone();
         keepsHeld();
         as();
         setRest();
@@ -76,6 +77,22 @@ public final class BreaksTest {
                 due.is(NAMES[kind] + " keeps, round " + round, x.restIs(kind, 7), want[round][kind]);
             }
         }
+    }
+
+    private static void keepsByDone() {
+        TakenUp x = new TakenUp();
+        x.worker(0);
+        x.step(0, 60, 9);
+        Due.text(x, 1, "1");
+        x.rest(43, 0, 999, 6);
+        x.rest(53, 0, 999, 6);
+        x.setWorker(0, 0, 41);
+        due.is("DEEP, DONE 0", x.restIs(0, 7), 17);
+        due.is("SEAMED, DONE 0", x.restIs(1, 7), 41);
+        x.minutes(1);
+        x.setWorker(0, 0, 41);
+        due.is("DEEP, DONE 1", x.restIs(0, 7), 8);
+        due.is("SEAMED, DONE 1", x.restIs(1, 7), 30);
     }
 
     private static void keepsHeld() {

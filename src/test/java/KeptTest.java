@@ -4,6 +4,8 @@ public final class KeptTest {
 
     public static void main(String[] args) {
         image();
+        waitsInTheImage();
+        numbersTakenAgain();
         notInTheImage();
         tell();
         check();
@@ -49,6 +51,8 @@ public final class KeptTest {
         x.untell(1);
         x.check();
         x.loose(60);
+        Due.feed(x, "((9");
+        x.tell(8);
         due.is("restore()", x.restore(), 3);
         due.worker("as it was", x, 0, 53, 1, 0, 21, 0, 1, 0, -1);
         due.is("one WORKER", x.workerIs(1, 0), Due.BEYOND);
@@ -78,6 +82,57 @@ public final class KeptTest {
         x.minutes(5);
         due.is("the latest", x.restore(), 8);
         due.is("how often isn't in it", x.image(), 3);
+    }
+
+    private static void waitsInTheImage() {
+        TakenUp x = new TakenUp();
+        x.worker(0);
+        x.step(0, 1, 9);
+        x.step(0, 1, 0);
+        x.tell(9);
+        x.image();
+        x.check();
+        x.tell(1);
+        x.restore();
+        // 2 tenths a MINUTE till 4, DEPTH 5 by then: 7 and 8
+        due.is("END", x.then(600, 0, 7), 6);
+        due.is("9 waits", x.check(), 1);
+        x.restore();
+        x.check();
+        x.tell(6);
+        x.image();
+        x.check();
+        x.tell(9);
+        x.restore();
+        due.is("6 waits", x.check(), 0);
+    }
+
+    /** Numbers that an IMAGE gives back are those of new ones. */
+    private static void numbersTakenAgain() {
+        TakenUp x = new TakenUp();
+        x.image();
+        x.worker(1);
+        x.step(0, 1, 0);
+        x.step(0, 9, 0);
+        x.setWorker(0, 0, 60);
+        x.rest(65, 0, 2, 9);
+        x.setRest(0, 5, 3);
+        x.minutes(4);
+        due.worker("the first", x, 0, 53, 2, 1, 63, 7, 1, 9, -1);
+        x.restore();
+        due.is("worker(0)", x.worker(0), 0);
+        due.worker("another", x, 0, 0, 0, 0, 0, 0, 0, 0, -1);
+        due.is("rest(11, 0, 7, 7)", x.rest(11, 0, 7, 7), 0);
+        int[] want = {1, 1, 0, 7, 7, 10, 0, 0};
+        for (int what = 0; what < 8; what++) {
+            due.is("restIs(0, " + what + ")", x.restIs(0, what), want[what]);
+        }
+        x.step(0, 1, 0);
+        x.minutes(4);
+        due.worker("all done", x, 0, 4, 1, 1, 0, 0, 0, 0, 3);
+        x.restore();
+        x.worker(0);
+        due.worker("a third", x, 0, 0, 0, 0, 0, 0, 0, 0, -1);
     }
 
     private static void notInTheImage() {

@@ -54,6 +54,15 @@ public final class TextsTest {
         due.is("2", x.restIs(0, 7), 2);
         due.is("no ERROR was told but two", x.told(1), 2);
         due.is("nothing at all", x.text(1), -10);
+        due.is("many are open", Due.text(x, 0, "((((("), -15);
+        due.is("one behind it", Due.text(x, 0, "(((((3)))))"), 1);
+        due.is("3", x.restIs(0, 7), 3);
+        due.is("a long one", Due.text(x, 0, "1+2*3-4/5&6|7<8"), 1);
+        due.is("a short one behind it", Due.text(x, 0, "5"), 1);
+        due.is("5", x.restIs(0, 7), 5);
+        due.is("one is open, signs wait", Due.text(x, 0, "4*(5-"), -15);
+        due.is("one behind it", Due.text(x, 0, "6"), 1);
+        due.is("6", x.restIs(0, 7), 6);
         due.is("60 bytes", Due.text(x, 0, "1+".repeat(29) + "11"), 1);
         due.is("29 and 11", x.restIs(0, 7), 40);
     }

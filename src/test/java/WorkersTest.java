@@ -65,7 +65,8 @@ public final class WorkersTest {
         due.is("AWAY 999", x.setWorker(0, 4, 999), 0);
         due.is("AWAY 1000", x.setWorker(0, 4, 1000), Due.BEYOND);
         due.is("AWAY -1", x.setWorker(0, 4, -1), Due.BEYOND);
-        due.is("AWAY 7", x.setWorker(0, 4, 7), 999);
+        due.is("AWAY 0", x.setWorker(0, 4, 0), 999);
+        due.is("AWAY 7", x.setWorker(0, 4, 7), 0);
         due.is("NOTE 0", x.setWorker(0, 5, 0), 1);
         due.is("NOTE 2", x.setWorker(0, 5, 2), Due.BEYOND);
         due.is("NOTE -1", x.setWorker(0, 5, -1), Due.BEYOND);
