@@ -60,6 +60,9 @@ public final class TextsTest {
         due.is("a long one", Due.text(x, 0, "1+2*3-4/5&6|7<8"), 1);
         due.is("a short one behind it", Due.text(x, 0, "5"), 1);
         due.is("5", x.restIs(0, 7), 5);
+        due.is("one that ends on !", Due.text(x, 0, "!!!1"), 1);
+        due.is("a short one behind it", Due.text(x, 0, "5"), 1);
+        due.is("5", x.restIs(0, 7), 5);
         due.is("one is open, signs wait", Due.text(x, 0, "4*(5-"), -15);
         due.is("one behind it", Due.text(x, 0, "6"), 1);
         due.is("6", x.restIs(0, 7), 6);
