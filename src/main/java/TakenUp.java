@@ -1254,10 +1254,7 @@ public final class TakenUp {
 
     private static final class Speaker {
         private final int[] trace = new int[MOST_BODIES];
-        // One that is PARTED leaves THE TRACE as it was, so BODIES are written here first.
-        private final int[] begun = new int[MOST_BODIES];
         private int traced;
-        private int begunCount;
         private int kind;
         private int m;
         private int number;
@@ -1267,14 +1264,9 @@ public final class TakenUp {
             kind = ofKind;
             m = ofM;
             number = ofNumber;
-            begunCount = 0;
+            traced = 0;
             isParted = false;
-            int answer = say(kind, voice, x, 0);
-            if (!isParted) {
-                System.arraycopy(begun, 0, trace, 0, begunCount);
-                traced = begunCount;
-            }
-            return answer;
+            return say(kind, voice, x, 0);
         }
 
         /** The VOICE as a KIND has it: by the BODY of that one, or of the next above that has one. */
@@ -1295,9 +1287,9 @@ public final class TakenUp {
         }
 
         private void begin(int body) {
-            if (begunCount < begun.length) {
-                begun[begunCount] = body;
-                begunCount++;
+            if (traced < trace.length) {
+                trace[traced] = body;
+                traced++;
             }
         }
 
@@ -1322,6 +1314,7 @@ public final class TakenUp {
 
         private int partAndAsk(int above, int x, int depth) {
             int parted = say(above, PARTS, x, depth);
+            // PARTED is all that voice() answers then: no BODY begins any more.
             return isParted ? 0 : parted + say(kind, ASKS, 1, depth);
         }
 

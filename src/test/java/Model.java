@@ -906,10 +906,12 @@ final class Model {
     private long voice(int rest, int voice, int x) {
         beyond(noRest(rest) || out(voice, 0, 3));
         Break b = voiceOf(rest, now.rests.get(rest).m, now.rests.get(rest).kind);
-        int answer = voice == 0 ? b.breaks(x) : voice == 1 ? b.asks(x) : voice == 2 ? b.holds(x) : b.parts(x);
-        latest.clear();
-        latest.addAll(b.begun.subList(0, Math.min(30, b.begun.size())));
-        return answer;
+        try {
+            return voice == 0 ? b.breaks(x) : voice == 1 ? b.asks(x) : voice == 2 ? b.holds(x) : b.parts(x);
+        } finally {
+            latest.clear();
+            latest.addAll(b.begun.subList(0, Math.min(30, b.begun.size())));
+        }
     }
 
     private long sheet(int sheet, int bits, int n) {

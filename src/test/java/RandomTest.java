@@ -242,7 +242,7 @@ public final class RandomTest {
             case "best": return new Pending(name, rest(), below(9) == 0 ? from(1, 120) : from(1, 12));
             case "heap": return new Pending(name, below(2) == 0 ? from(0, 999) : due());
             case "odds": return odds();
-            case "voice": return new Pending(name, rest(), from(0, 3), below(3) == 0 ? random.nextInt() : from(-50, 50));
+            case "voice": return voice();
             case "body": return new Pending(name, from(0, 6));
             case "sheet": return new Pending(name, from(0, 3), below(20) == 0 ? below(33) : 8 * below(5), from(0, 24));
             case "put": return new Pending(name, from(0, 3), from(0, 23), below(9) == 0 ? random.nextInt() : from(0, 60));
@@ -280,6 +280,15 @@ public final class RandomTest {
             case 5: return new Pending("setRest", rest(), 5, from(0, 10));
             default: return new Pending("setRest", rest(), from(0, 7), from(0, 9));
         }
+    }
+
+    /** Often a VOICE is followed by THE TRACE, which also one that is PARTED leaves. */
+    private Pending voice() {
+        if (below(2) == 0) {
+            pending.add(new Pending("count", 9));
+            pending.add(new Pending("body", below(3)));
+        }
+        return new Pending("voice", rest(), from(0, 3), below(3) == 0 ? random.nextInt() : from(-50, 50));
     }
 
     private Pending odds() {

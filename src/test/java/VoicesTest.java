@@ -12,9 +12,13 @@ public final class VoicesTest {
         {{70}, {71, 11, 70}, {12, 71, 11, 70}, {13}},
     };
 
+    // likewise, of the VOICE that parts, if it is PARTED: it stops behind the BODY 13
+    private static final int[][] PARTED_TRACES = {{13}, {21, 13}, {13}, {13}, {21, 13}, {13}, {13}};
+
     public static void main(String[] args) {
         answers();
         parted();
+        partedFirst();
         wrong();
         due.end();
     }
@@ -96,7 +100,7 @@ public final class VoicesTest {
         due.is(call + ": body(-1)", x.body(-1), Due.NONE);
     }
 
-    /** One that answers an ERROR leaves THE TRACE, as it leaves all else. */
+    /** One that is PARTED is the latest voice() nevertheless: THE TRACE has the BODIES that it began. */
     private static void parted() {
         TakenUp x = new TakenUp();
         x.worker(0);
@@ -107,8 +111,27 @@ public final class VoicesTest {
             due.is("asks", x.voice(kind, 1, 5), answer(kind, 1, kind, kind, 5));
             due.is("parts", x.voice(kind, 3, 5), Due.PARTED);
             due.is("told(6)", x.told(6), kind + 1);
-            trace("behind a PARTED one", x, TRACES[kind][1]);
+            trace("behind a PARTED one", x, PARTED_TRACES[kind]);
+            due.is("no such VOICE", x.voice(kind, 4, 5), Due.BEYOND);
+            trace("behind a PARTED one and BEYOND", x, PARTED_TRACES[kind]);
+            due.is("breaks", x.voice(kind, 0, 5), answer(kind, 0, kind, kind, 5));
+            trace("behind one that isn't PARTED", x, TRACES[kind][0]);
         }
+    }
+
+    /** PARTED changes nothing but THE TRACE and what told() tells, and an IMAGE keeps neither. */
+    private static void partedFirst() {
+        TakenUp x = new TakenUp();
+        x.worker(0);
+        x.rest(10, 0, 900, 1);
+        x.image();
+        due.is("parts", x.voice(0, 3, 9), Due.PARTED);
+        trace("PARTED at first", x, PARTED_TRACES[1]);
+        x.restore();
+        trace("behind restore()", x, PARTED_TRACES[1]);
+        due.is("told(6)", x.told(6), 1);
+        due.is("z", x.count(10), 1);
+        due.is("CAME", x.restIs(0, 6), 0);
     }
 
     private static void wrong() {
