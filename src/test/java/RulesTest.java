@@ -26,6 +26,7 @@ public final class RulesTest {
         String code = source.replaceAll("(?s)/\\*.*?\\*/", "").replaceAll("//[^\n]*", "")
             .replaceAll("\"[^\"\n]*\"", "\"\"").replaceAll("'[^'\n]*'", "' '");
         face(Files.readString(DOC));
+        headings(Files.readString(DOC), source);
         classes();
         words(code);
         library(code);
@@ -78,6 +79,25 @@ public final class RulesTest {
                 rule(method + " has at most 7 parameters", method.getParameterCount() <= 7);
             }
         }
+    }
+
+    /** What the interface says ahead of which calls. */
+    private static void headings(String doc, String source) {
+        Matcher m = Pattern.compile("Ahead of the calls (.*) the interface says: (---- .*)\\.").matcher(doc);
+        int headings = 0;
+        while (m.find()) {
+            headings++;
+            int from = source.indexOf("// " + m.group(2) + "\n");
+            rule("the interface says " + m.group(2), from >= 0);
+            List<String> got = new java.util.ArrayList<>();
+            Matcher call = Pattern.compile("\n    (?:public \\w+ (\\w+)\\(|// ----)").matcher(source);
+            for (int at = from + 1; from >= 0 && call.find(at) && call.group(1) != null; at = call.end()) {
+                got.add(call.group(1));
+            }
+            rule(m.group(2) + " of " + m.group(1) + " and not of " + got,
+                got.equals(List.of(m.group(1).replaceAll("[`,]", "").trim().split(" "))));
+        }
+        rule("five headings", headings == 5);
     }
 
     private static List<Class<?>> all() {
